@@ -32,8 +32,8 @@ public final class HeardBackward {
 
     private final Script script;
     private final Reader reader;
-    private Court court;
-    private Court spare;
+    private final Court court;
+    private final Court read;
     private final Hearing hearing;
     private final Shelf past;
     private final Shelf shelf;
@@ -44,14 +44,14 @@ public final class HeardBackward {
         script = new Script();
         reader = new Reader();
         court = new Court();
-        spare = new Court();
+        read = new Court();
         hearing = new Hearing();
         past = new Shelf(MOST_UNDONE);
         shelf = new Shelf(MOST_KEPT);
         survey = new Survey();
         secondSurvey = new Survey();
         script.addAll(FIRST_TEXT);
-        reader.read(script, court);
+        reader.readAll(script, court);
         script.clear();
     }
 
@@ -71,16 +71,14 @@ public final class HeardBackward {
     }
 
     public int fault() {
-        return reader.read(script, spare);
+        return reader.readAll(script, read);
     }
 
     public int lay() {
-        if (reader.read(script, spare) != NONE || spare.verdicts == 0) {
+        if (reader.readAll(script, read) != NONE || read.verdicts == 0) {
             return NO;
         }
-        Court read = spare;
-        spare = court;
-        court = read;
+        court.copyFrom(read);
         hearing.clear();
         past.clear();
         shelf.clear();
@@ -318,13 +316,14 @@ public final class HeardBackward {
         if (outside(z, 0, HIGHEST_CASE) || !court.isVerdict(v) || outside(what, 0, 1)) {
             return BAD;
         }
+        int most = has(hearing.struck, v) ? 1 : MOST_STATEMENTS;
         int chain = bit(v);
         int last = v;
         int length = 1;
-        while (length < MOST_STATEMENTS) {
+        while (length < most) {
             int open = openBehind(court, last, chain, hearing.struck);
             int choices = Integer.bitCount(open);
-            if (choices == 0 || has(hearing.struck, v)) {
+            if (choices == 0) {
                 break;
             }
             last = bitByRank(open, draw(z, length) % choices);
@@ -516,7 +515,7 @@ public final class HeardBackward {
         private final int[] numbers = new int[MOST_NUMBERS];
         private int amount;
 
-        private int read(Script script, Court court) {
+        private int readAll(Script script, Court court) {
             court.clear();
             int start = 0;
             for (int items = 0; items < MOST_LETTERS && start < script.length; items++) {
@@ -601,6 +600,17 @@ public final class HeardBackward {
             size = 0;
             verdicts = 0;
             people = 0;
+        }
+
+        private void copyFrom(Court other) {
+            System.arraycopy(other.kinds, 0, kinds, 0, MOST_STATEMENTS);
+            System.arraycopy(other.costs, 0, costs, 0, MOST_STATEMENTS);
+            System.arraycopy(other.spans, 0, spans, 0, MOST_STATEMENTS);
+            System.arraycopy(other.hangs, 0, hangs, 0, MOST_STATEMENTS);
+            System.arraycopy(other.deeds, 0, deeds, 0, MOST_PEOPLE);
+            size = other.size;
+            verdicts = other.verdicts;
+            people = other.people;
         }
 
         private boolean addStatement(int kind, int cost, int span) {
