@@ -181,7 +181,7 @@ public final class PromiseTests {
             "s", ";", "s;", "s0;", "s0,0;", "s0,0,0", "s0,0,", "s0,0,0,0;", "s0,,0;", "s,0,0;",
             "s0,0,;", "s0,0,0,;", "s000,0,0;", "s0,000,0;", "s0,0,020;", " s0,0,0;", "s 0,0,0;",
             "s0, 0,0;", "s0,0,0 ;", "S0,0,0;", "s-1,0,0;", "s+1,0,0;", "s0.0,0;", "s0,0,0:",
-            "t0,0,0;", "s0,0,0/", "s/,0,0;", "s:,0,0;", "0,0,0;"};
+            "t0,0,0;", "s0,0,0/", "s/,0,0;", "s:,0,0;", "s0,:,0;", "s0,1:,0;", "s0,0,;;", "0,0,0;"};
         for (String text : wrong) {
             faultOf(text, 0);
             faultOf("s4,0,0;" + text, 7);
@@ -264,6 +264,15 @@ public final class PromiseTests {
         due("statement(0, 4), none of the former", x.statement(0, 4), 0);
         due("who(1), none of the former", x.who(1), 0);
         due("fault()", x.fault(), NONE);
+        x.wipe();
+        Check.write(x, "s0,1,1;s4,0,0;r0,1;");
+        due("lay() without a VERDICT behind one that had some", x.lay(), NO);
+        due("count(1)", x.count(1), 1);
+    }
+
+    /** Two VERDICTS that are told last and hang on what is told first; all ways lead by 0. */
+    private static HeardBackward backToFront() {
+        return Check.laidOut("s0,1,1;s4,2,2;s0,3,3;s0,4,4;v2;v3;r2,0;r3,2;r3,0;r0,1;r0,2;r0,3;p1,1;");
     }
 
     private static void statement() {
@@ -540,6 +549,8 @@ public final class PromiseTests {
         HeardBackward y = Check.laidOut("s0,0,0;s0,0,0;s0,0,0;s4,0,0;v0;r0,1;r1,0;r1,2;r2,1;r2,0;r0,2;r1,3;r2,3;");
         due("chains(0), none twice", y.chains(0), 4);
         due("chains(0) of ten", tenInARow().chains(0), 1);
+        due("chains(2), back to front", backToFront().chains(2), 1);
+        due("chains(3), back to front", backToFront().chains(3), 2);
         due("chains(0) to no NIGHT", Check.laidOut("s0,0,0;s0,0,0;v0;r0,1;r1,0;").chains(0), 0);
         due("chains(0) of many", many().chains(0), 4 + 4 * 3 + 4 * 3 * 2 + 4 * 3 * 2);
     }
@@ -725,6 +736,13 @@ public final class PromiseTests {
         due("none twice", loop.byTurns(0, 0), 1);
         due("a VERDICT that hangs on nothing", Check.laidOut("s0,0,0;v0;").byTurns(0, 0), 0);
         due("nine turns", tenInARow().byTurns(0, 0), 1);
+        due("nothing but 0 wins", Check.laidOut("s0,0,0;s4,0,0;s0,0,0;v2;r2,0;r0,1;p1,1;").byTurns(2, 1), 0);
+        due("the other one has 0 to get STUCK by", Check.laidOut(
+                "s0,0,0;s4,0,0;s0,0,0;s0,0,0;v2;r2,3;r3,0;r3,1;p1,1;").byTurns(2, 0), 0);
+        due("whose turn it is at the fourth", Check.laidOut(
+                "s0,0,0;s0,0,0;s0,0,0;s0,0,0;s4,0,0;s4,0,0;v0;r0,1;r1,2;r2,3;r3,4;r3,5;p4,4;").byTurns(0, 0), 0);
+        due("whose turn it is at the fifth", Check.laidOut(
+                "s0,0,0;s0,0,0;s0,0,0;s0,0,0;s0,0,0;s4,0,0;s4,0,0;v0;r0,1;r1,2;r2,3;r3,4;r4,5;r4,6;p6,6;").byTurns(0, 0), 1);
     }
 
     private static void days() {
@@ -870,6 +888,11 @@ public final class PromiseTests {
         HeardBackward alone = Check.laidOut("s0,0,0;v0;");
         due("trialBy(3, 0, 0) of one", alone.trialBy(3, 0, 0), 1);
         due("trialBy(3, 0, 1) of one", alone.trialBy(3, 0, 1), NONE);
+        HeardBackward zero = Check.laidOut("s0,0,0;s4,0,0;s0,0,0;v2;r2,0;r0,1;");
+        due("trialBy(0, 2, 0) by 0", zero.trialBy(0, 2, 0), 3);
+        HeardBackward round = Check.laidOut("s0,0,0;s0,0,0;s0,0,0;v0;r0,1;r1,2;r2,0;r2,1;");
+        due("trialBy(0, 0, 0), none twice", round.trialBy(0, 0, 0), 3);
+        due("trialBy(0, 0, 1), none twice", round.trialBy(0, 0, 1), NONE);
         HeardBackward wide = Check.laidOut("s0,0,0;s4,0,0;s4,0,0;s4,0,0;s4,0,0;s4,0,0;s4,0,0;s4,0,0;v0;"
                 + "r0,1;r0,2;r0,3;r0,4;r0,5;r0,6;r0,7;");
         for (int z = 0; z < 10000; z += 101) {
